@@ -374,6 +374,12 @@ public final class PromisesTest {
     c.due("4 not by the others", desk.shadow(4, false), -1);
     desk.setContext(0, 0);
     c.due("0 everywhere", desk.shadow(0, true), -1);
+    desk.clear();
+    Checks.add(desk, 0, "a=abc", 9, 0);
+    Checks.add(desk, 0, "a=abc", 7, 0);
+    Checks.add(desk, 0, "a=abc", 5, 0);
+    c.due("by the rule 0", desk.shadow(1, true), 0);
+    c.due("by two rules", desk.shadow(2, true), 0);
   }
 
   private static void promise16LetterCount() {
@@ -441,6 +447,13 @@ public final class PromisesTest {
     c.due("malformed", () -> desk.learn(), IAE);
     c.due("emptied", desk.count(5), 0);
     c.due("position", desk.errorPosition(), 3);
+    desk.clear();
+    desk.setThreshold(1);
+    Checks.add(desk, 0, "q=quo", 3, 4);
+    c.due("prevented by the rule 0", Checks.learn(desk, "q=quo"), 0);
+    Checks.expanded(desk, "'a");
+    Checks.type(desk, "a 'a=ab ab");
+    c.due("no marks after expanding", () -> desk.learn(), IAE);
   }
 
   private static void promise18LearnLimits() {
@@ -530,6 +543,7 @@ public final class PromisesTest {
     c.due("end", Checks.abbreviated(desk, "qde"), "qz");
     c.due("longer end is better", Checks.abbreviated(desk, "qcde"), "qy");
     c.due("both overlap: first is better", Checks.abbreviated(desk, "abcde"), "xde");
+    c.due("both overlap: end with the number 0", endZero(), "xde");
     c.due("exactly as many letters", Checks.abbreviated(desk, "abccde"), "xy");
     c.due("more letters", Checks.abbreviated(desk, "abcqcde"), "xqy");
     desk.setPriority(1, 6);
@@ -550,6 +564,13 @@ public final class PromisesTest {
     c.due("emptied", desk.count(5), 0);
     c.due("position", desk.errorPosition(), 5);
     c.due("result stays", Checks.output(desk), "v q");
+  }
+
+  private static String endZero() {
+    AbbreviationDesk desk = deskInMode(0);
+    Checks.add(desk, 2, "y=cde", 5, 0);
+    Checks.add(desk, 1, "x=abc", 6, 0);
+    return Checks.abbreviated(desk, "abcde");
   }
 
   private static void promise20AbbreviateContexts() {
@@ -590,8 +611,21 @@ public final class PromisesTest {
     desk.setMode(0);
     c.due("mode 0", Checks.abbreviated(desk, text), "t t t tha gog dog tha q");
     desk.setMode(1);
+    c.due("beginning with the number 0", beginningZero(), "2,0,-1,3,2,0;");
     desk.setContext(0, 2);
     c.due("restored at the same place", Checks.abbreviated(desk, "that that"), "t that");
+    desk.clear();
+    Checks.add(desk, 0, "t=she", 5, 0);
+    Checks.add(desk, 0, "t=the", 4, 0);
+    Checks.add(desk, 0, "t=sha", 3, 0);
+    c.due("words that differ by one letter", Checks.abbreviated(desk, "the sha she"), "the sha t");
+  }
+
+  private static String beginningZero() {
+    AbbreviationDesk desk = new AbbreviationDesk();
+    Checks.add(desk, 1, "u=un", 5, 0);
+    Checks.abbreviated(desk, "uno");
+    return Checks.words(desk);
   }
 
   private static void promise20ErrorPositions() {
@@ -840,6 +874,8 @@ public final class PromisesTest {
     desk.setPriority(0, 90);
     desk.removeRule(1);
     c.due("priorities of then", desk.meanPriority(), 17f);
+    Checks.abbreviated(desk, "the");
+    c.due("one use", desk.meanPriority(), 90f);
     Checks.expanded(desk, "t t ux");
     c.due("180 by 3", desk.meanPriority(), 60f);
     Checks.abbreviated(desk, "t");
@@ -898,6 +934,10 @@ public final class PromisesTest {
     }
     c.due("back", () -> desk.copyLengths(1, 3), true);
     c.due("element", desk.storedBits(0, 2), Float.floatToIntBits(2f));
+    Checks.abbreviated(desk, "aaa");
+    desk.storeLengths(0, true);
+    c.due("element 0 changes", () -> desk.copyLengths(0, 1), true);
+    c.due("element 0", desk.storedBits(1, 0), Float.floatToIntBits(3f));
     Checks.add(desk, 0, "t=the", 20, 0);
     Checks.abbreviated(desk, "the t");
     desk.storeLengths(0, false);
@@ -1043,8 +1083,15 @@ public final class PromisesTest {
     desk.setMode(1);
     c.due("new command", desk.undo(), 0);
     desk.clear();
+    Checks.learn(desk, "ab=abcdef");
+    Checks.add(desk, 2, "xx=yyy", 77, 4);
     c.due("again", desk.restore(), 2);
     c.due("the same", Checks.state(desk), state);
+    c.due("the same pair", Checks.learn(desk, "w=with"), 1);
+    desk.clear();
+    desk.setMode(0);
+    c.due("undo brings back", desk.undo(), 0);
+    c.due("nothing", Checks.state(desk), "m1 t2");
   }
 
   /** No argument may bring out anything but what the document names. */
