@@ -11,6 +11,10 @@ final class Checks {
     part = name;
   }
 
+  int checked() {
+    return checked;
+  }
+
   void due(String what, Object got, Object want) {
     checked++;
     if (!Objects.equals(got, want)) {
@@ -50,7 +54,8 @@ final class Checks {
 
   static String output(AbbreviationDesk desk) {
     StringBuilder all = new StringBuilder();
-    for (int index = 0; index < desk.result(1); index++) {
+    int length = desk.result(1);
+    for (int index = 0; index < length; index++) {
       all.append(desk.output(index));
     }
     return all.toString();
@@ -71,7 +76,8 @@ final class Checks {
   /** All numbers about each word of the result. */
   static String words(AbbreviationDesk desk) {
     StringBuilder all = new StringBuilder();
-    for (int word = 0; word < desk.result(0); word++) {
+    int words = desk.result(0);
+    for (int word = 0; word < words; word++) {
       for (int what = 0; what <= 5; what++) {
         all.append(desk.word(word, what)).append(what < 5 ? "," : ";");
       }
@@ -81,7 +87,8 @@ final class Checks {
 
   static String form(AbbreviationDesk desk, int rule, boolean isLong) {
     StringBuilder all = new StringBuilder();
-    for (int index = 0; index < desk.rule(rule, isLong ? 4 : 3); index++) {
+    int length = desk.rule(rule, isLong ? 4 : 3);
+    for (int index = 0; index < length; index++) {
       all.append(desk.letter(rule, isLong, index));
     }
     return all.toString();
@@ -90,12 +97,14 @@ final class Checks {
   /** All rules, pairs and settings, as the calls of the face tell them. */
   static String state(AbbreviationDesk desk) {
     StringBuilder all = new StringBuilder();
-    for (int rule = 0; rule < desk.count(0); rule++) {
+    int rules = desk.count(0);
+    for (int rule = 0; rule < rules; rule++) {
       all.append(desk.rule(rule, 0)).append(' ').append(form(desk, rule, false)).append('=')
           .append(form(desk, rule, true)).append(' ').append(desk.rule(rule, 1)).append(' ')
           .append(desk.rule(rule, 2)).append("; ");
     }
-    for (int pair = 0; pair < desk.count(1); pair++) {
+    int pairs = desk.count(1);
+    for (int pair = 0; pair < pairs; pair++) {
       for (int what = 0; what <= 3; what++) {
         all.append(desk.pair(pair, what)).append(what < 3 ? "," : "; ");
       }

@@ -214,6 +214,10 @@ final class Model {
     return form.charAt(index);
   }
 
+  String form(int rule, boolean isLong) {
+    return now.rules.get(rule).form(isLong);
+  }
+
   /** At which of the word 0, a word behind a vowel and one behind another letter a context fits. */
   private static boolean fits(int context, int place) {
     switch (context) {

@@ -75,8 +75,8 @@ public final class ModelTest {
   }
 
   private String formOrWord(boolean isLong) {
-    if (desk.count(0) > 0 && random.nextInt(3) > 0) {
-      return Checks.form(desk, random.nextInt(desk.count(0)), isLong);
+    if (model.count(0) > 0 && random.nextInt(3) > 0) {
+      return model.form(random.nextInt(model.count(0)), isLong);
     }
     return word(random.nextInt(8) == 0 ? 26 : 4);
   }
@@ -139,7 +139,7 @@ public final class ModelTest {
   }
 
   private void change(int choice) {
-    int rule = number(0, desk.count(0) - 1);
+    int rule = number(0, model.count(0) - 1);
     if (choice < 3) {
       type(word(3) + "=" + word(random.nextInt(5) == 0 ? 13 : 5));
       int kind = number(0, 2);
@@ -187,7 +187,7 @@ public final class ModelTest {
   }
 
   private void lookAtResult() {
-    int words = Checks.answer(() -> desk.result(0)) instanceof Integer ? desk.result(0) : 1;
+    int words = Checks.answer(() -> model.result(0)) instanceof Integer number ? number : 1;
     int index = number(0, words * 3);
     same("output " + index, () -> desk.output(index), () -> model.output(index));
     for (int times = 0; times < 4; times++) {
@@ -211,7 +211,7 @@ public final class ModelTest {
   }
 
   private void ask(int choice) {
-    int rule = number(0, desk.count(0) - 1);
+    int rule = number(0, model.count(0) - 1);
     boolean isLong = random.nextBoolean();
     int what = number(0, 7);
     char letter = letters.charAt(random.nextInt(letters.length()));
@@ -227,7 +227,7 @@ public final class ModelTest {
         same("count " + what, () -> desk.count(what), () -> model.count(what));
         break;
       case 17:
-        int index = number(0, desk.count(4) - 1);
+        int index = number(0, model.count(4) - 1);
         same("collision " + index + " " + isLong, () -> desk.collision(index, isLong),
             () -> model.collision(index, isLong));
         break;
@@ -246,7 +246,7 @@ public final class ModelTest {
         same("saving " + kind, () -> desk.saving(kind), () -> model.saving(kind));
         break;
       case 22:
-        int pair = number(0, desk.count(1) - 1);
+        int pair = number(0, model.count(1) - 1);
         int about = number(0, 3);
         same("pair " + pair + " " + about, () -> desk.pair(pair, about), () -> model.pair(pair, about));
         break;
@@ -257,7 +257,7 @@ public final class ModelTest {
   }
 
   private void rare(int choice) {
-    int rule = number(0, desk.count(0) - 1);
+    int rule = number(0, model.count(0) - 1);
     switch (choice) {
       case 24:
         same("undo", desk::undo, model::undo);

@@ -35,6 +35,7 @@ public final class PromisesTest {
     promise20AbbreviateModes();
     promise20ErrorPositions();
     promise21Expand();
+    promise21ExpandLongWords();
     promise21ErrorPositions();
     promise22ErrorPosition();
     promise23Output();
@@ -675,26 +676,28 @@ public final class PromisesTest {
     Checks.add(desk, 0, "w=wcx", 9, 1);
     c.due("behind what came of the word before", Checks.expanded(desk, "w w so w x w 'so w"),
         "wcx wbx soon wbx xa wax so wax");
-    desk.clear();
+  }
+
+  private static void promise21ExpandLongWords() {
+    c.part("21 long words");
+    AbbreviationDesk desk = new AbbreviationDesk();
     Checks.add(desk, 1, "a=abcdefghijkl", 5, 0);
     Checks.add(desk, 2, "b=abcdefghijkl", 5, 0);
     c.due("longer than 24", Checks.expanded(desk, "acccccccccccccccccccccb"), "abcdefghijkl" + "ccccccccccccccccccccc"
         + "abcdefghijkl");
     c.due("24 letters", Checks.expanded(desk, "accccccccccccccccccccccb").length(), 46);
-    StringBuilder text = new StringBuilder("ab");
-    for (int word = 1; word < 33; word++) {
-      text.append(" ab");
-    }
-    c.due("longest result", Checks.expanded(desk, text.toString()), text.toString().replace("ab",
-        "abcdefghijklabcdefghijkl"));
+    Checks.type(desk, Desks.times(33, "ab", " "));
+    c.due("longest result", desk.expand(), 33 * 24 + 32);
+    c.due("its last character", desk.output(823), 'l');
     c.due("too long to take back", () -> desk.takeBack(), UOE);
     Checks.type(desk, "a=b");
     c.due("malformed", () -> desk.expand(), IAE);
     c.due("emptied", desk.count(5), 0);
     c.due("result stays", desk.result(0), 33);
-    c.due("fifty words", Checks.expanded(desk, "a a a a a a a a a a a a a a a a a a a a a a a a a a a a a a a a a a"
-        + " a a a a a a a a a a a a a a a a"), ("a".repeat(50)).replace("a", "a ").trim());
-    c.due("fifty", desk.result(0), 50);
+    String fifty = Desks.times(50, "a", " ");
+    AbbreviationDesk other = new AbbreviationDesk();
+    c.due("fifty words", Checks.expanded(other, fifty), fifty);
+    c.due("fifty", other.result(0), 50);
   }
 
   private static void promise21ErrorPositions() {
@@ -970,10 +973,13 @@ public final class PromisesTest {
       }
     }
     for (int length = 1; length <= 24; length++) {
-      Checks.abbreviated(end, "bcdefghijklmnopqrstuvwxyz".substring(0, length));
-      end.storeLengths(0, true);
-      c.due("length " + length, end.storedBits(0, 0), Float.floatToIntBits((float) length));
+      AbbreviationDesk desk = new AbbreviationDesk();
+      Checks.abbreviated(desk, "bcdefghijklmnopqrstuvwxyz".substring(0, length));
+      desk.storeLengths(0, true);
+      c.due("length " + length, desk.storedBits(0, 0), Float.floatToIntBits((float) length));
     }
+    Checks.abbreviated(end, "b");
+    end.storeLengths(0, true);
     c.due("index -1", () -> end.storedBits(0, -1), NSE);
     c.due("index 1", () -> end.storedBits(0, 1), NSE);
   }
@@ -1024,7 +1030,7 @@ public final class PromisesTest {
     c.part("34 isReplayed");
     AbbreviationDesk desk = new AbbreviationDesk();
     c.due("new", desk.isReplayed(), true);
-    for (int number = 0; number < 24; number++) {
+    for (int number = 0; number < 14; number++) {
       Checks.add(desk, number % 3, "t=the", number, number % 5);
     }
     Checks.learn(desk, "w v=with vith");
@@ -1037,7 +1043,7 @@ public final class PromisesTest {
     String state = Checks.state(desk);
     c.due("many", desk.isReplayed(), true);
     c.due("state stays", Checks.state(desk), state);
-    c.due("commands stay", desk.count(7), 27);
+    c.due("commands stay", desk.count(7), 17);
     c.due("undos stay", desk.count(6), 6);
     desk.snapshot();
     desk.clear();
