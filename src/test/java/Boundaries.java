@@ -81,10 +81,13 @@ final class Boundaries {
   /** How a new desk reads a text: -1 if it is right, otherwise the error position that is kept. */
   void read(String text, Call call, int position) {
     AbbreviationDesk desk = Desks.withBuffer(text);
-    boolean isRight = Checks.answer(() -> call.on(desk)) instanceof Integer;
-    c.due("'" + text + "'", isRight ? -1 : Checks.answer(() -> desk.errorPosition()), position);
-    if (isRight) {
-      c.due("no position of '" + text + "'", () -> desk.errorPosition(), NSE);
+    Object answer = Checks.answer(() -> call.on(desk));
+    if (position < 0) {
+      c.due("'" + text + "' is right", answer instanceof Integer, true);
+      c.due("position of '" + text + "'", () -> desk.errorPosition(), NSE);
+    } else {
+      c.due("'" + text + "'", answer, IAE);
+      c.due("position of '" + text + "'", () -> desk.errorPosition(), position);
     }
   }
 
