@@ -63,6 +63,9 @@ public final class LanguageTest {
     "\\bextends\\b", "\\bMap\\b", "\\bSet\\b", "\\bstatic \\{", "\\bpackage\\b", "\\bString\\[",
   };
 
+  private static final String LIBRARY = "java\\.lang\\.Object\\.Object\\(\\)|java\\.lang\\.System\\.arraycopy\\(.*\\)"
+      + "|java\\.lang\\.Math\\.(min|max)\\(int,int\\)|java\\.(lang|util)\\.(?<name>\\w+Exception)\\.\\k<name>\\(\\)";
+
   public static void main(String[] args) throws IOException {
     String path = args.length > 0 ? args[0] : "src/main/java/AbbreviationDesk.java";
     String source = Files.readString(Path.of(path));
@@ -70,6 +73,7 @@ public final class LanguageTest {
     classes();
     words(source);
     methodLengths(source);
+    calls(new CallGraph(Path.of(path)));
     c.end();
   }
 
@@ -146,6 +150,17 @@ public final class LanguageTest {
     Matcher imports = Pattern.compile("import ([^;]*);").matcher(code);
     while (imports.find()) {
       c.due("import", imports.group(1), "java.util.NoSuchElementException");
+    }
+  }
+
+  private static void calls(CallGraph graph) {
+    c.part("calls");
+    c.due("methods are found", graph.methods().size() > 36, true);
+    for (String method : graph.methods()) {
+      c.due(method + " goes at most eight calls deep, without recursion", graph.depth(method) <= 8, true);
+    }
+    for (String called : graph.library()) {
+      c.due(called, called.matches(LIBRARY) ? "in the library" : "not in the library", "in the library");
     }
   }
 
